@@ -262,6 +262,14 @@ public final class PromiseTests {
         }
     }
 
+    /** To look at a register is not to make it: a lesser ACT that is come to behind has it unset still. */
+    private static void verifyLooksMakeNothing() {
+        for (int op : new int[] {BRANCH, PUT, FILL, CAST, ENTER, LEAVE, NOTE}) {
+            verified("OP " + op + " makes nothing", 1, 0, a(JUMP, 3), a(MOVE, 7, 0), a(GIVE, 7), a(SET, 1, 1), a(SET, 2, 1),
+                a(op, 0, op == BRANCH ? 6 : 1, 2), a(JUMP, 1));
+        }
+    }
+
     private static void verifyHandlers() {
         MarkedSteps x = made(a(SET, 0, 1), a(SET, 1, 1), a(GIVE, 1), a(GIVE, 7), a(GIVE, 1));
         due("7 not come to", x.verify(0), NONE);
@@ -302,6 +310,9 @@ public final class PromiseTests {
         due("7 it wants none, and a is made", x.verify(0), NONE);
         x = made(a(CALL, 0, -1, 5), a(GIVE, 0));
         due("7 a is made by a CALL of none", x.verify(0), NONE);
+        x = made(a(CALL, 0, 1, 0));
+        x.member(1);
+        due("7 register 0 is one of them", x.verify(0), 0);
     }
 
     private static void verify() {
@@ -310,6 +321,7 @@ public final class PromiseTests {
         for (int m : WRONG) due("7 UNKNOWN", x.verify(m), UNKNOWN);
         verifyPlain();
         verifyEachOp();
+        verifyLooksMakeNothing();
         verifyHandlers();
         verifyCalls();
         x = made(a(GIVE, 4));
@@ -373,6 +385,7 @@ public final class PromiseTests {
         due("10 changed on the way", x.plan(2), 7);
         due("10 the STOP", x.step(1), STOPPED);
         due("10 as it was again", x.plan(2), 4);
+        gives("25, 26 cell 0", 0, 7, a(SET, 0, 7), a(SET, 1, 0), a(NOTE, 0, 1), a(ASK, 2, 1), a(GIVE, 2));
         ends("25 INDEX below", -12, a(SET, 0, 7), a(SET, 1, -1), a(NOTE, 0, 1));
         ends("25 INDEX above", -12, a(SET, 0, 7), a(SET, 1, 12), a(NOTE, 0, 1));
         ends("26 INDEX below", -12, a(SET, 1, -1), a(ASK, 0, 1));
@@ -413,6 +426,11 @@ public final class PromiseTests {
         due("11 nothing again", x.argument(1, 0, 5), 1);
         x.walk(1, 1);
         due("11 nothing", x.register(1, 0), NONE);
+        x.drop();
+        x.argument(1, 1, 77);
+        x.argument(1, 0, 77);
+        x.walk(1, 1);
+        due("11 nothing has no NUMBER", x.register(1, 1), 0);
     }
 
     private static void run() {
@@ -432,6 +450,11 @@ public final class PromiseTests {
         x.drop();
         due("12 RESULT is nothing behind the STOP", x.result(0), NONE);
         ends("12 no ACTS", 0);
+        x = made(a(SET, 0, 5), a(GIVE, 0));
+        more(x, 0, a(SET, 0, 6));
+        x.run(0, 5);
+        x.run(1, 5);
+        due("12 nothing that an earlier run gave", x.result(0), NONE);
         gives("12 behind the last it gives nothing", NONE, 0, a(SET, 0, 5));
         ends("12 JUMP behind the last", 0, a(JUMP, 40));
     }
@@ -461,6 +484,14 @@ public final class PromiseTests {
         gives("SAME: another CELL", 0, 0, a(CELL, 1, 0), a(CELL, 2, 0), a(SAME, 0, 1, 2), a(GIVE, 0));
         gives("SAME: another ROW", 0, 0, a(SET, 0, 0), a(ROW, 1, 0, 0), a(ROW, 2, 0, 0), a(SAME, 0, 1, 2), a(GIVE, 0));
         gives("SAME: a CELL and nothing", 0, 0, a(CELL, 1, 0), a(SAME, 0, 1, 2), a(GIVE, 0));
+        gives("SAME: NUMBERS in used registers", 0, 1, a(CELL, 1, 0), a(SET, 1, 4), a(SET, 2, 4), a(SAME, 0, 1, 2), a(GIVE, 0));
+        gives("SAME: nothing in a used register", 0, 1, a(SET, 1, 4), a(MOVE, 1, 5), a(SAME, 0, 1, 2), a(GIVE, 0));
+        gives("SAME: a CELL in a used register", 0, 1, a(SET, 1, 4), a(CELL, 1, 0), a(CELL, 2, 0), a(MOVE, 2, 1), a(SAME, 0, 1, 2), a(GIVE, 0));
+        ends("no ROW any more", -13, a(SET, 0, 2), a(ROW, 0, 0, 0), a(SET, 0, 2), a(LENGTH, 1, 0));
+        ends("no CELL any more", -13, a(CELL, 0, 0), a(SET, 0, 2), a(FIELD, 1, 0, 0));
+        ends("no CELL but a ROW", -13, a(CELL, 0, 0), a(SET, 1, 2), a(ROW, 0, 1, 0), a(FIELD, 1, 0, 0));
+        ends("no ROW but a CELL", -13, a(SET, 1, 2), a(ROW, 0, 1, 0), a(CELL, 0, 0), a(LENGTH, 1, 0));
+        ends("nothing any more", -11, a(CELL, 0, 0), a(MOVE, 0, 5), a(FIELD, 1, 0, 0));
         gives("MOVE of nothing", NONE, 0, a(SET, 0, 1), a(MOVE, 0, 1), a(GIVE, 0));
     }
 
@@ -656,6 +687,50 @@ public final class PromiseTests {
         due("a HANDLER that can't be paid", x.run(0, 2), STOPPED);
     }
 
+    /** All 12 FRAMES are over with one ACT, in each of the three ways. */
+    private static void twelveFrames() {
+        int[] one = a(SET, 1, 1), less = a(SUB, 0, 0, 1), on = a(BRANCH, 0, 4), again = a(CALL, 2, 0, 0);
+        int[][] innermost = {a(JUMP, 40), a(THROW, 0), a(JUMP, 3)};
+        int[] ends = {0, -19, STOPPED};
+        for (int i = 0; i < 3; i++) {
+            MarkedSteps x = new MarkedSteps();
+            more(x, 1, one, less, on, innermost[i], again);
+            x.argument(0, 1, 12);
+            due("twelve FRAMES", x.run(0, 100), ends[i]);
+            due("twelve FRAMES", x.counted(6), 12);
+            due("none is left", x.told(5), 0);
+            due("walked", x.walk(0, 12), 1);
+            due("walked to the innermost ACT", x.step(11 * 4 + 3), 1);
+            due("twelve FRAMES", x.frame(0), 12);
+            due("over with one ACT", x.step(1), ends[i]);
+            due("none is left", x.told(5), 0);
+            due("each of them once", x.info(0, 3), 24);
+        }
+    }
+
+    /** As many ACTS and HANDLERS as there may be. */
+    private static void fullMember() {
+        MarkedSteps x = made();
+        for (int i = 0; i < 39; i++) x.act(0, SET, 0, i, 0);
+        x.act(0, THROW, 0, 0, 0);
+        for (int h = 0; h < 5; h++) x.handler(0, 39, 40, 1 + h, 0);
+        x.handler(0, 0, 39, 0, 0);
+        due("none of six has it", x.run(0, 9), -19);
+        due("7 of forty ACTS none", x.verify(0), NONE);
+        x.cut(0);
+        x.act(0, GIVE, 1, 0, 0);
+        due("7 the fortieth", x.verify(0), 39);
+        x.cut(0);
+        x.act(0, GIVE, 0, 0, 0);
+        due("forty ACTS", x.run(0, 9), 0);
+        due("forty ACTS", x.result(1), 38);
+        x.cut(0);
+        x.act(0, SET, 3, 1, 0);
+        due("behind the fortieth", x.run(0, 9), 0);
+        due("gives nothing", x.result(0), NONE);
+        due("7 behind the fortieth", x.verify(0), NONE);
+    }
+
     private static void monitors() {
         ends("ENTER NULL", -11, a(ENTER, 0));
         ends("ENTER CAST", -13, a(SET, 0, 0), a(ENTER, 0));
@@ -683,6 +758,16 @@ public final class PromiseTests {
         due("free", x.result(2), 0);
         x.argument(0, 2, 0);
         due("not held by a later FRAME", x.run(2, 9), -16);
+        x = made(a(CELL, 0, 0), a(ENTER, 0), a(ENTER, 0));
+        more(x, 0, a(CELL, 0, 0), a(ENTER, 0), a(LEAVE, 0), a(LEAVE, 0));
+        x.run(0, 9);
+        due("a later FRAME holds it but once", x.run(1, 9), -16);
+        x = made(a(CELL, 0, 0), a(CALL, 1, 1, 0), a(CALL, 1, 1, 0), a(ENTER, 0), a(LEAVE, 0), a(GIVE, 0));
+        more(x, 1, a(ENTER, 0), a(CALL, 1, 2, 0), a(LEAVE, 0), a(ENTER, 0));
+        more(x, 1, a(ENTER, 0), a(ENTER, 0), a(LEAVE, 0));
+        due("FRAMES upon FRAMES with one MONITOR", x.run(0, 99), 0);
+        counts("FRAMES upon FRAMES with one MONITOR", x, 6, 5, 0, 0, 1, 0, 3, 9, 4);
+        due("free", x.result(2), 0);
     }
 
     private static void stops() {
@@ -988,6 +1073,8 @@ public final class PromiseTests {
         jumps();
         handlersGoneTo();
         calls();
+        twelveFrames();
+        fullMember();
         monitors();
         stops();
         result();
