@@ -5,6 +5,7 @@ import java.util.List;
 import java.util.Map;
 import java.util.Set;
 import java.util.concurrent.SynchronousQueue;
+import java.util.concurrent.TimeUnit;
 
 /**
  * The document again, written another way than MarkedSteps: FRAMES are Java calls, what is thrown is thrown, ROWS
@@ -557,9 +558,12 @@ final class Model {
 
     // ---- walks
 
+    /** Neither side of a walk waits for ever: if the other one has died, the test fails instead of hanging. */
     private static int taken(SynchronousQueue<Integer> queue) {
         try {
-            return queue.take();
+            Integer n = queue.poll(60, TimeUnit.SECONDS);
+            if (n == null) throw new IllegalStateException("the other side of the walk is gone");
+            return n;
         } catch (InterruptedException e) {
             throw new IllegalStateException(e);
         }
@@ -567,7 +571,7 @@ final class Model {
 
     private static void handed(SynchronousQueue<Integer> queue, int n) {
         try {
-            queue.put(n);
+            if (!queue.offer(n, 60, TimeUnit.SECONDS)) throw new IllegalStateException("the other side of the walk is gone");
         } catch (InterruptedException e) {
             throw new IllegalStateException(e);
         }
