@@ -258,7 +258,7 @@ public final class MarkedSteps {
             case 0: return machine.depth;
             case 1: return top.number;
             case 2: return top.at;
-            default: return top.holdings;
+            default: return machine.holdings();
         }
     }
 
@@ -742,6 +742,15 @@ public final class MarkedSteps {
         /** The latest FRAME; without any, the first one's place. */
         private Frame top() {
             return frames[Math.max(depth - 1, 0)];
+        }
+
+        /** Of the whole WALK, not of its latest FRAME alone: those that wait for a CALL hold theirs still. */
+        private int holdings() {
+            int all = 0;
+            for (int i = 0; i < MOST_FRAMES && i < depth; i++) {
+                all += frames[i].holdings;
+            }
+            return all;
         }
 
         private int begin(int number, int budget, Slot[] givers) {

@@ -620,7 +620,14 @@ final class Model {
         if (!in(what, 0, 3)) return OUTSIDE;
         if (!walking) return NO;
         Frame f = frames.get(frames.size() - 1);
-        return new int[] {frames.size(), f.code.number, f.at, f.holdings(this)}[what];
+        int held = 0;
+        for (Plain p : cells) for (int times : p.holders.values()) held += times;
+        return new int[] {frames.size(), f.code.number, f.at, held}[what];
+    }
+
+    /** For the tests alone: what the FRAME at hand holds of frame(3). */
+    int heldAtHand() {
+        return walking ? frames.get(frames.size() - 1).holdings(this) : 0;
     }
 
     int register(int k, int what) {

@@ -3,7 +3,7 @@ import java.util.List;
 
 /** Long made-up runs of calls, asked of MarkedSteps and of the Model: every answer has to be alike. */
 public final class ModelTests {
-    private static final int OBJECTS = 1500, CALLS = 400;
+    private static final int OBJECTS = 1500, CALLS = 400, STEPS_LOOKED_AT = 120;
     /** By OP, how it can end: 0 done, 1 to 9 the KIND thrown, 10 the STOP (GIVE's and THROW's own ends with them). */
     private static final int[][] ENDS = {
         {0}, {0}, {0, 1, 3}, {0, 1, 3}, {0, 1, 3}, {0, 1, 3, 5}, {0, 1, 3, 5}, {0, 1, 3}, {0},
@@ -11,6 +11,8 @@ public final class ModelTests {
         {0}, {0, 3}, {0, 1, 3}, {0, 1, 3, 6}, {1, 3, 9}, {0, 1, 2, 3, 4, 5, 6, 7, 8, 9, 10}, {0}, {0, 1, 2, 3}, {0, 1, 2, 3},
         {0, 1, 3, 10}};
     private static int wrong = 0;
+    /** How often a WALK was looked at within a CALL: whose caller holds, and where both FRAMES hold. */
+    private static int callerHolds = 0, bothHold = 0;
 
     private long seed;
     private final MarkedSteps x = new MarkedSteps();
@@ -88,7 +90,9 @@ public final class ModelTests {
 
     /** A likely meeting of things: a row or cell in 1, a number in 2, and an act that uses both. */
     private void somePattern(int m) {
-        switch (below(10)) {
+        switch (below(12)) {
+            case 10: act(m, 12, 1, below(4), 0); act(m, 20, 1, 0, 0); act(m, 23, 3, below(6), 1); break;
+            case 11: act(m, 20, 0, 0, 0); act(m, 20, 0, 0, 0); act(m, 23, 3, below(6), 0); act(m, 21, 0, 0, 0); break;
             case 6: act(m, 0, 2, 0, 0); act(m, 5 + below(2), 3, 2, 2); break;
             case 7: act(m, 12, 1, below(4), 0); act(m, 21, 1, 0, 0); break;
             case 8: act(m, 0, 3, number(), 0); act(m, 22, 3, 0, 0); break;
@@ -126,16 +130,31 @@ public final class ModelTests {
 
     private void lookAtFrame() {
         for (int w = -1; w <= 4; w++) same("frame(" + w + ")", x.frame(w), y.frame(w));
+        int atHand = y.heldAtHand();
+        if (y.frame(3) > atHand) {
+            callerHolds++;
+            if (atHand > 0) bothHold++;
+        }
         for (int k = -1; k <= 8; k++) {
             for (int w = -1; w <= 2; w++) same("register(" + k + ", " + w + ")", x.register(k, w), y.register(k, w));
         }
+    }
+
+    /** A WALK that is looked at ahead of each ACT, so that what is far in is seen too. */
+    private void walkThrough(int m, int budget) {
+        int answer = same("walk(" + m + ", " + budget + ")", x.walk(m, budget), y.walk(m, budget));
+        for (int i = 0; i < STEPS_LOOKED_AT && answer == 1 && !differs; i++) {
+            lookAtFrame();
+            answer = same("step(1)", x.step(1), y.step(1));
+        }
+        look();
     }
 
     private void someCall() {
         int m = below(12) == 0 ? odd() : below(Math.max(1, y.told(0)));
         int budget = among(0, 1, 2, 3, 5, 8, 13, 20, 30, 60, 60, 100, 200, 400, 1000, -1, 1001);
         int i = below(3), n = number();
-        switch (below(20)) {
+        switch (below(21)) {
             case 0: case 1: case 2: case 3: case 4:
                 same("run(" + m + ", " + budget + ")", x.run(m, budget), y.run(m, budget)); look(); break;
             case 5: case 6: case 7:
@@ -151,6 +170,7 @@ public final class ModelTests {
             case 16: { int p = below(7) - 1, v = below(12) - 1; same("price(" + p + ", " + v + ")", x.price(p, v), y.price(p, v)); break; }
             case 17: { int at = odd(); same("set(" + at + ", " + n + ")", x.set(at, n), y.set(at, n)); break; }
             case 18: if (below(3) == 0) same("cut(" + m + ")", x.cut(m), y.cut(m)); break;
+            case 19: walkThrough(m, budget); break;
             default: if (below(4) == 0) newMember(); else if (y.told(0) > 0) someAct(below(y.told(0))); break;
         }
     }
@@ -206,6 +226,10 @@ public final class ModelTests {
         int[][] seen = new int[28][11];
         for (int i = 0; i < OBJECTS; i++) new ModelTests(i, seen).go();
         wrong += notSeen(seen);
+        if (callerHolds < 500 || bothHold < 100) {
+            wrong++;
+            System.out.println("a caller held only " + callerHolds + " times, both FRAMES " + bothHold + " times");
+        }
         System.out.println(wrong == 0 ? "all answers are as due" : wrong + " objects answered otherwise than the model");
         if (wrong != 0) System.exit(1);
     }

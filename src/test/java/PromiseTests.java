@@ -958,13 +958,53 @@ public final class PromiseTests {
         for (int w : new int[] {Integer.MIN_VALUE, -1, 4, Integer.MAX_VALUE}) due("21 OUTSIDE ahead of NO", x.frame(w), OUTSIDE);
         due("21 NO", x.frame(0), NO);
         x.walk(0, 9);
-        int[][] want = {{1, 0, 0, 0}, {1, 0, 1, 0}, {1, 0, 2, 1}, {1, 0, 3, 2}, {2, 1, 0, 0}, {2, 1, 1, 1}, {1, 0, 4, 2}, {1, 0, 5, 1}};
+        int[][] want = {{1, 0, 0, 0}, {1, 0, 1, 0}, {1, 0, 2, 1}, {1, 0, 3, 2}, {2, 1, 0, 2}, {2, 1, 1, 3}, {1, 0, 4, 2}, {1, 0, 5, 1}};
         for (int i = 0; i < want.length; i++) {
             for (int w = 0; w < 4; w++) due("21 frame(" + w + ") behind " + i, x.frame(w), want[i][w]);
             x.step(1);
         }
         due("21 over", x.frame(0), NO);
         due("21 holdings over", x.counted(8), 2);
+    }
+
+    /** frame(3) is of the WALK: the holdings of all its FRAMES, wherever it is paused. */
+    private static void holdingsOfTheWalk() {
+        MarkedSteps x = made(a(CELL, 1, 0), a(GIVE, 1));
+        x.run(0, 2);
+        x.argument(0, 2, 0);
+        more(x, 1, a(ENTER, 0), a(CALL, 0, 0, 0));
+        x.walk(1, 2);
+        x.step(2);
+        due("21 the calling FRAME's holding", x.frame(3), 1);
+
+        x = made(a(CELL, 0, 3), a(CELL, 1, 0), a(ENTER, 0), a(CALL, 2, 1, 0), a(LEAVE, 0), a(SET, 0, 0));
+        more(x, 2, a(ENTER, 0), a(ENTER, 1), a(CALL, 2, 2, 0), a(LEAVE, 1), a(SET, 0, 0));
+        more(x, 1, a(ENTER, 0), a(LEAVE, 0), a(LEAVE, 0), a(SET, 0, 0));
+        x.handler(1, 2, 3, 6, 3);
+        int[] want = {0, 0, 0, 1, 1, 2, 3, 3, 4, 3, 3, 2, 1, 0};
+        x.walk(0, 50);
+        for (int i = 0; i < want.length; i++) {
+            due("21 holdings of three FRAMES, " + i, x.frame(3), want[i]);
+            due("21 it goes on or gives", x.step(1), i == want.length - 1 ? 0 : 1);
+        }
+        due("21 no WALK has none", x.frame(3), NO);
+
+        x.walk(0, 50);
+        x.step(8);
+        due("21 ahead of drop()", x.frame(3), 4);
+        x.drop();
+        due("21 behind drop()", x.frame(3), NO);
+        x.walk(0, 50);
+        due("21 a new WALK has none", x.frame(3), 0);
+
+        x = made(a(CELL, 0, 0), a(ENTER, 0), a(CALL, 1, 1, 0), a(SET, 0, 0));
+        more(x, 1, a(ENTER, 0), a(ENTER, 0), a(SET, 1, 5), a(THROW, 1), a(SET, 1, 6));
+        x.handler(0, 0, 4, 9, 3);
+        x.walk(0, 50);
+        x.step(6);
+        due("21 ahead of THROW", x.frame(3), 3);
+        x.step(1);
+        due("21 the FRAME that threw is over", x.frame(3), 1);
     }
 
     private static void register() {
@@ -1085,6 +1125,7 @@ public final class PromiseTests {
         walk();
         step();
         frame();
+        holdingsOfTheWalk();
         register();
         drop();
         told();
