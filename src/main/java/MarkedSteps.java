@@ -1123,14 +1123,17 @@ public final class MarkedSteps {
         private static final int MOST_PASSES = MOST_ACTS * (REGISTERS + 1) + 1;
 
         private final int[] made = new int[MOST_ACTS];
+        private boolean changed;
 
         private int leastActThatLooksAtUnset(Machine machine, Member code) {
             for (int at = 0; at < MOST_ACTS; at++) {
                 made[at] = NOT_COME_TO;
             }
-            boolean changed = comeTo(code, 0, (1 << code.wants) - 1);
+            comeTo(code, 0, (1 << code.wants) - 1);
+            changed = true;
             for (int pass = 0; pass < MOST_PASSES && changed; pass++) {
-                changed = passOver(code);
+                changed = false;
+                passOver(code);
             }
             for (int at = 0; at < code.actCount; at++) {
                 if (made[at] != NOT_COME_TO && (lookedAt(machine, code, at) & ~made[at]) != 0) {
@@ -1140,46 +1143,46 @@ public final class MarkedSteps {
             return NONE;
         }
 
-        private boolean passOver(Member code) {
-            boolean changed = false;
+        private void passOver(Member code) {
             for (int at = 0; at < code.actCount; at++) {
                 if (made[at] != NOT_COME_TO) {
-                    changed |= goOn(code, at);
-                    changed |= goToHandlers(code, at);
+                    goOn(code, at);
+                    goToHandlers(code, at);
                 }
             }
-            return changed;
         }
 
-        private boolean goOn(Member code, int at) {
+        private void goOn(Member code, int at) {
             int op = code.ops[at];
             int behind = MAKES_A[op] == 0 ? made[at] : made[at] | 1 << code.as[at];
-            switch (op) {
-                case JUMP: return comeTo(code, code.as[at], behind);
-                case BRANCH: return comeTo(code, at + 1, behind) | comeTo(code, code.bs[at], behind);
-                case THROW: case GIVE: return false;
-                default: return comeTo(code, at + 1, behind);
+            if (op == JUMP) {
+                comeTo(code, code.as[at], behind);
+            } else if (op != THROW && op != GIVE) {
+                comeTo(code, at + 1, behind);
+            }
+            if (op == BRANCH) {
+                comeTo(code, code.bs[at], behind);
             }
         }
 
         /** What an ACT makes is not there yet as it throws. */
-        private boolean goToHandlers(Member code, int at) {
-            boolean changed = false;
+        private void goToHandlers(Member code, int at) {
             for (int h = 0; h < code.handlerCount; h++) {
                 if (code.handlerHas(h, at)) {
-                    changed |= comeTo(code, code.ats[h], made[at] | 1 << CAUGHT);
+                    comeTo(code, code.ats[h], made[at] | 1 << CAUGHT);
                 }
             }
-            return changed;
         }
 
-        private boolean comeTo(Member code, int at, int brought) {
+        private void comeTo(Member code, int at, int brought) {
             if (at >= code.actCount) {
-                return false;
+                return;
             }
             int before = made[at];
             made[at] = before & brought;
-            return made[at] != before;
+            if (made[at] != before) {
+                changed = true;
+            }
         }
 
         private static int lookedAt(Machine machine, Member code, int at) {

@@ -1,9 +1,12 @@
 import java.util.ArrayList;
 import java.util.List;
 
-/** Long made-up runs of calls, asked of MarkedSteps and of the Model: every answer has to be alike. */
+/**
+ * Made-up runs of calls, asked of MarkedSteps and of the Model: every answer has to be alike. No object is asked more
+ * than the 512 calls that the document promises answers for.
+ */
 public final class ModelTests {
-    private static final int OBJECTS = 1500, CALLS = 400, STEPS_LOOKED_AT = 120;
+    private static final int OBJECTS = 12000, MOST_CALLS = 512, LAST_LOOK = 150, STEPS_LOOKED_AT = 60;
     /** By OP, how it can end: 0 done, 1 to 9 the KIND thrown, 10 the STOP (GIVE's and THROW's own ends with them). */
     private static final int[][] ENDS = {
         {0}, {0}, {0, 1, 3}, {0, 1, 3}, {0, 1, 3}, {0, 1, 3, 5}, {0, 1, 3, 5}, {0, 1, 3}, {0},
@@ -18,6 +21,7 @@ public final class ModelTests {
     private final MarkedSteps x = new MarkedSteps();
     private final Model y;
     private final List<String> calls = new ArrayList<>();
+    private int callsLeft = MOST_CALLS;
     private boolean differs;
 
     private ModelTests(long seed, int[][] seen) {
@@ -34,6 +38,7 @@ public final class ModelTests {
 
     private int same(String call, int got, int due) {
         calls.add(call + " = " + due);
+        callsLeft--;
         if (got != due && !differs) {
             differs = true;
             wrong++;
@@ -45,7 +50,10 @@ public final class ModelTests {
         return due;
     }
 
+    private boolean ends() { return differs || callsLeft <= LAST_LOOK; }
+
     private void act(int m, int op, int a, int b, int c) {
+        if (ends()) return;
         same("act(" + m + ", " + op + ", " + a + ", " + b + ", " + c + ")", x.act(m, op, a, b, c), y.act(m, op, a, b, c));
     }
 
@@ -109,42 +117,66 @@ public final class ModelTests {
     }
 
     private void someHandler(int m) {
+        if (ends()) return;
         int from = below(20), to = Math.min(40, from + below(25)), kind = below(2) == 0 ? 0 : below(10), at = below(3) == 0 ? below(41) : target(m);
         if (below(30) == 0) at = odd();
         same("handler(" + m + ", " + from + ", " + to + ", " + kind + ", " + at + ")",
             x.handler(m, from, to, kind, at), y.handler(m, from, to, kind, at));
     }
 
+    /** A few of all readings, by chance: an object has not calls enough to be read whole more than once. */
     private void look() {
-        for (int w = -1; w <= 3; w++) same("result(" + w + ")", x.result(w), y.result(w));
-        for (int w = -1; w <= 9; w++) same("counted(" + w + ")", x.counted(w), y.counted(w));
-        for (int i = -1; i <= 101; i++) same("trace(" + i + ")", x.trace(i), y.trace(i));
-        for (int i = -1; i <= 12; i++) same("plan(" + i + ")", x.plan(i), y.plan(i));
-        for (int i = -1; i <= 4; i++) same("cell(" + i + ")", x.cell(i), y.cell(i));
-        for (int w = -1; w <= 6; w++) same("told(" + w + ")", x.told(w), y.told(w));
-        same("left()", x.left(), y.left());
-        for (int m = -1; m <= 10; m++) for (int w = -1; w <= 4; w++) same("info(" + m + ", " + w + ")", x.info(m, w), y.info(m, w));
-        for (int m = -1; m <= 10; m++) same("verify(" + m + ")", x.verify(m), y.verify(m));
-        lookAtFrame();
+        lookAtHoldings();
+        for (int i = 0; i < 6 && !ends(); i++) oneReading();
     }
 
-    private void lookAtFrame() {
-        for (int w = -1; w <= 4; w++) same("frame(" + w + ")", x.frame(w), y.frame(w));
-        int atHand = y.heldAtHand();
-        if (y.frame(3) > atHand) {
+    private void oneReading() {
+        int m = below(4) == 0 ? below(12) - 1 : below(Math.max(1, y.told(0))), i = below(6) - 1;
+        switch (below(14)) {
+            case 0: same("result(" + i + ")", x.result(i), y.result(i)); break;
+            case 1: case 2: { int w = below(11) - 1; same("counted(" + w + ")", x.counted(w), y.counted(w)); break; }
+            case 3: case 4: { int w = among(-1, below(12), below(12), 40, 98, 99, 100, 101); same("trace(" + w + ")", x.trace(w), y.trace(w)); break; }
+            case 5: { int w = below(14) - 1; same("plan(" + w + ")", x.plan(w), y.plan(w)); break; }
+            case 6: same("cell(" + i + ")", x.cell(i), y.cell(i)); break;
+            case 7: { int w = below(8) - 1; same("told(" + w + ")", x.told(w), y.told(w)); break; }
+            case 8: same("left()", x.left(), y.left()); break;
+            case 9: same("info(" + m + ", " + i + ")", x.info(m, i), y.info(m, i)); break;
+            case 10: same("verify(" + m + ")", x.verify(m), y.verify(m)); break;
+            case 11: same("frame(" + i + ")", x.frame(i), y.frame(i)); break;
+            default: { int k = below(10) - 1, w = below(4) - 1; same("register(" + k + ", " + w + ")", x.register(k, w), y.register(k, w)); break; }
+        }
+    }
+
+    private void lookAtHoldings() {
+        if (ends()) return;
+        int atHand = y.heldAtHand(), held = same("frame(3)", x.frame(3), y.frame(3));
+        if (held > atHand) {
             callerHolds++;
             if (atHand > 0) bothHold++;
         }
-        for (int k = -1; k <= 8; k++) {
-            for (int w = -1; w <= 2; w++) same("register(" + k + ", " + w + ")", x.register(k, w), y.register(k, w));
-        }
+    }
+
+    private void lookAtAll() {
+        for (int w = 0; w < 3; w++) same("result(" + w + ")", x.result(w), y.result(w));
+        for (int w = 0; w < 9; w++) same("counted(" + w + ")", x.counted(w), y.counted(w));
+        for (int i = 0; i < 20; i++) same("trace(" + i + ")", x.trace(i), y.trace(i));
+        for (int i = 98; i < 101; i++) same("trace(" + i + ")", x.trace(i), y.trace(i));
+        for (int i = 0; i < 12; i++) same("plan(" + i + ")", x.plan(i), y.plan(i));
+        for (int i = -1; i < 5; i++) same("cell(" + i + ")", x.cell(i), y.cell(i));
+        for (int w = 0; w < 6; w++) same("told(" + w + ")", x.told(w), y.told(w));
+        same("left()", x.left(), y.left());
+        for (int m = 0; m < y.told(0); m++) for (int w = 0; w < 4; w++) same("info(" + m + ", " + w + ")", x.info(m, w), y.info(m, w));
+        for (int m = 0; m < y.told(0); m++) same("verify(" + m + ")", x.verify(m), y.verify(m));
+        for (int w = 0; w < 4; w++) same("frame(" + w + ")", x.frame(w), y.frame(w));
+        for (int k = 0; k < 8; k++) for (int w = 0; w < 2; w++) same("register(" + k + ", " + w + ")", x.register(k, w), y.register(k, w));
     }
 
     /** A WALK that is looked at ahead of each ACT, so that what is far in is seen too. */
     private void walkThrough(int m, int budget) {
         int answer = same("walk(" + m + ", " + budget + ")", x.walk(m, budget), y.walk(m, budget));
-        for (int i = 0; i < STEPS_LOOKED_AT && answer == 1 && !differs; i++) {
-            lookAtFrame();
+        for (int i = 0; i < STEPS_LOOKED_AT && answer == 1 && !ends(); i++) {
+            lookAtHoldings();
+            oneReading();
             answer = same("step(1)", x.step(1), y.step(1));
         }
         look();
@@ -204,7 +236,9 @@ public final class ModelTests {
     private void go() {
         for (int i = 0; i < 3; i++) newMember();
         for (int k = 0; k < 3; k++) same("argument", x.argument(k, 1, k), y.argument(k, 1, k));
-        for (int i = 0; i < CALLS && !differs; i++) someCall();
+        for (int i = 0; i < MOST_CALLS && !ends(); i++) someCall();
+        if (!differs) lookAtAll();
+        if (callsLeft < 0) throw new IllegalStateException("more calls than the document promises answers for");
         y.drop();
     }
 

@@ -1,60 +1,5 @@
 /** Each promise of the document by itself: ordinary inputs, the edges that it names, wrong inputs. */
-public final class PromiseTests {
-    private static final int UNKNOWN = -1, OUTSIDE = -2, NO = -3, FULL = -4, NONE = -5, STOPPED = -9;
-    private static final int SET = 0, MOVE = 1, ADD = 2, SUB = 3, MUL = 4, DIV = 5, REST = 6, LESS = 7, SAME = 8, JUMP = 9,
-        BRANCH = 10, ROW = 11, CELL = 12, PUT = 13, GET = 14, LENGTH = 15, FIELD = 16, FILL = 17, IS = 18, CAST = 19,
-        ENTER = 20, LEAVE = 21, THROW = 22, CALL = 23, GIVE = 24, NOTE = 25, ASK = 26, WEIGH = 27;
-    private static final int[] WRONG = {Integer.MIN_VALUE, -1, Integer.MAX_VALUE};
-    private static int wrong = 0, asked = 0;
-
-    private static void due(String call, int got, int want) {
-        asked++;
-        if (got != want) {
-            wrong++;
-            System.out.println(call + " answered " + got + ", due is " + want);
-        }
-    }
-
-    /** A new object with one MEMBER, 0, that wants nothing and has these ACTS. */
-    private static MarkedSteps made(int[]... acts) {
-        MarkedSteps x = new MarkedSteps();
-        more(x, 0, acts);
-        return x;
-    }
-
-    private static int more(MarkedSteps x, int wants, int[]... acts) {
-        int m = x.member(wants);
-        for (int i = 0; i < acts.length; i++) due("an act that fits", x.act(m, acts[i][0], acts[i][1], acts[i][2], acts[i][3]), i + 1);
-        return m;
-    }
-
-    private static int[] a(int op, int a, int b, int c) { return new int[] {op, a, b, c}; }
-
-    private static int[] a(int op, int a, int b) { return new int[] {op, a, b, -7}; }
-
-    private static int[] a(int op, int a) { return new int[] {op, a, -7, 99}; }
-
-    private static void counts(String run, MarkedSteps x, int... want) {
-        for (int i = 0; i < want.length; i++) due(run + ": counted(" + i + ")", x.counted(i), want[i]);
-    }
-
-    private static void traces(String run, MarkedSteps x, int... want) {
-        for (int i = 0; i < want.length; i++) due(run + ": trace(" + i + ")", x.trace(i), want[i]);
-        due(run + ": trace behind its end", x.trace(want.length), NONE);
-    }
-
-    /** Runs these ACTS alone, with plenty to pay from. */
-    private static void ends(String what, int want, int[]... acts) {
-        due(what, made(acts).run(0, 1000), want);
-    }
-
-    private static void gives(String what, int kind, int number, int[]... acts) {
-        MarkedSteps x = made(acts);
-        due(what + ": run", x.run(0, 1000), 0);
-        due(what + ": kind", x.result(0), kind);
-        due(what + ": number", x.result(1), number);
-    }
-
+public final class PromiseTests extends Asked {
     private static void newObject() {
         MarkedSteps x = new MarkedSteps();
         due("1 told(0)", x.told(0), 0);
@@ -1130,7 +1075,6 @@ public final class PromiseTests {
         drop();
         told();
         thingsStay();
-        System.out.println(asked + " answers asked, " + wrong + " not as due");
-        if (wrong != 0) System.exit(1);
+        tellAndEnd();
     }
 }
