@@ -786,6 +786,45 @@ public final class BoundaryTests extends Asked {
         verified("it is made on the only way", NONE, x);
     }
 
+    /** An ACT 3 of this OP, behind three that make registers 0 to 2; it makes register 5 if it makes any. */
+    private static MarkedSteps withOp(int op, int target) {
+        boolean makes = "1111111110011011101000010011".charAt(op) == '1';
+        MarkedSteps x = made(a(SET, 0, 1), a(SET, 1, 1), a(SET, 2, 1));
+        due("ACT 3", x.act(0, op, op == JUMP ? target : makes ? 5 : 0, op == BRANCH ? target : 1, 2), 4);
+        return x;
+    }
+
+    /** Promise 7: "going on" behind each OP but JUMP, GIVE and THROW, and a HANDLER's AT "from each ACT". */
+    private static void verifyEachOpsWays() {
+        for (int op = 0; op < 28; op++) {
+            MarkedSteps x = withOp(op, 5);
+            x.act(0, GIVE, 6, 0, 0);
+            verified("going on behind OP " + op, op == JUMP || op == THROW || op == GIVE ? NONE : 4, x);
+            for (int kind = 0; kind <= 9; kind++) {
+                x = withOp(op, 40);
+                more4(x, a(GIVE, 0), a(GIVE, 6), a(GIVE, 5));
+                verified("without a HANDLER, OP " + op, NONE, x);
+                x.handler(0, 3, 4, kind, 5);
+                verified("to the HANDLER's AT from OP " + op, 5, x);
+                x = withOp(op, 40);
+                more4(x, a(GIVE, 0), a(GIVE, 6), a(GIVE, 5), a(GIVE, 7));
+                x.handler(0, 3, 4, kind, 7);
+                verified("register 7 is made as OP " + op + " throws", NONE, x);
+                x.handler(0, 3, 4, kind, 6);
+                verified("what OP " + op + " makes is not", 6, x);
+            }
+        }
+        for (int none : new int[] {MIN, -1, 1, MAX}) {
+            MarkedSteps x = made(a(CALL, 0, none, 0), a(GIVE, 1));
+            verified("going on behind a CALL of no MEMBER " + none, 1, x);
+        }
+    }
+
+    /** ACTS 4 and on of MEMBER 0. */
+    private static void more4(MarkedSteps x, int[]... acts) {
+        for (int i = 0; i < acts.length; i++) due("an act that fits", x.act(0, acts[i][0], acts[i][1], acts[i][2], acts[i][3]), 5 + i);
+    }
+
     /** Promise 7: where nothing is, and what stands behind the last ACT. */
     private static void verifyEdges() {
         MarkedSteps x = new MarkedSteps();
@@ -1057,6 +1096,7 @@ public final class BoundaryTests extends Asked {
         cutAndMore();
         priceBounds();
         verifyWays();
+        verifyEachOpsWays();
         verifyEdges();
         argumentAsItIsNow();
         intoBounds();
